@@ -120,6 +120,13 @@ public final class PromisesTest {
         due(2, "a 17th note", y.note(60, 100, 101), FULL);
         due(2, "a 17th note that is wrong", y.note(60, 100, 100), BAD);
         due(2, "a note is not BOUND at first", y.bind(15, false), 0);
+        JustMoves late = new JustMoves();
+        late.note(60, 5, 6);
+        for (int i = 1; i < 6; i++) {
+            late.note(60, 3, 8);
+        }
+        due(2, "one that begins before six sound", late.note(60, 0, 9), FULL);
+        due(2, "one that ends as the sixth begins", late.note(60, 0, 5), 6);
         JustMoves z = chord(60, 60, 60, 60, 60, 60);
         z.choose();
         due(2, "a seventh one", z.note(60, 3, 5), FULL);
@@ -613,6 +620,15 @@ public final class PromisesTest {
         low.solve();
         dueText(18, "a place of 0", low, low.place(1, 2), "0");
         due(18, "a note that does not sound there", low.place(1, 0), BAD);
+        // The BASE is loose, at 0, and the other one is read as 1/1 above it.
+        JustMoves zero = chord(11, 0);
+        list(zero, 11, 1, 1);
+        zero.weight(4, 0);
+        zero.choose();
+        zero.solve();
+        dueText(18, "a place of 0 far from EQUAL", zero, zero.place(0, 0), "0");
+        dueText(19, "the move to it", zero, zero.move(0, 0), "-110000");
+        due(21, "near it", zero.near(0, 0), 0);
         // A BOUND note has one place in all its sets, and S counts there for each of them.
         JustMoves held = new JustMoves();
         held.note(60, 0, 2);
