@@ -1,4 +1,7 @@
+import java.util.ArrayList;
+import java.util.List;
 import java.util.Random;
+import java.util.function.ToLongFunction;
 
 /**
  * Scores with the longest numbers, and such that one of the solver's primes divides the determinant
@@ -29,9 +32,11 @@ public final class LongNumbersTest {
         "717: 72,1,3 73,1,4 65,2,3 60,2,5 63,2,4 bind 3 4 weights 61 94 36",
         "723: 61,0,1 56,2,3 61,1,4 64,0,2 57,0,3 bind 0 1 2 weights 89 96 52"};
 
-    private final JustMoves moves = new JustMoves();
     private final Reference due = new Reference();
-    private final StringBuilder log = new StringBuilder();
+    private final List<Change> changes = new ArrayList<>();
+    private JustMoves moves;
+
+    private record Change(String call, ToLongFunction<JustMoves> to, long want) { }
 
     public static void main(String[] args) {
         for (String line : WHOLE) {
@@ -54,23 +59,34 @@ public final class LongNumbersTest {
     }
 
     private void check(String call, long got, long want) {
-        log.append(call).append(" = ").append(want).append('\n');
         if (got != want) {
             failures++;
-            System.out.println(log + "but answered " + got);
+            for (Change change : changes) {
+                System.out.println(change.call + " = " + change.want);
+            }
+            System.out.println(call + " answered " + got + ", due is " + want);
         }
     }
 
+    private void change(String call, ToLongFunction<JustMoves> to, long want) {
+        changes.add(new Change(call, to, want));
+    }
+
     private void note(int key, int from, int to) {
-        check("note(" + key + ", " + from + ", " + to + ")", moves.note(key, from, to), due.note(key, from, to));
+        change("note(" + key + ", " + from + ", " + to + ")", x -> x.note(key, from, to), due.note(key, from, to));
     }
 
     private void bind(int note, boolean on) {
-        check("bind(" + note + ", " + on + ")", moves.bind(note, on), due.bind(note, on));
+        change("bind(" + note + ", " + on + ")", x -> x.bind(note, on), due.bind(note, on));
     }
 
     private void weight(int what, int v) {
-        check("weight(" + what + ", " + v + ")", moves.weight(what, v), due.weight(what, v));
+        change("weight(" + what + ", " + v + ")", x -> x.weight(what, v), due.weight(what, v));
+    }
+
+    private void list(int type, int up, int down) {
+        change("empty(" + type + ")", x -> x.empty(type), due.empty(type));
+        change("ratio(" + type + ", " + up + ", " + down + ")", x -> x.ratio(type, up, down), due.ratio(type, up, down));
     }
 
     private void runLine(String line) {
@@ -98,10 +114,8 @@ public final class LongNumbersTest {
             note(random.nextInt(2) * 60 + random.nextInt(68), begins[i], ends[i]);
         }
         for (int type = 0; type < 12; type++) {
-            check("empty", moves.empty(type), due.empty(type));
-            int up = random.nextBoolean() ? 1 : 4095;
-            int down = up == 1 ? 1 : 2048;
-            check("ratio(" + type + ", " + up + ", " + down + ")", moves.ratio(type, up, down), due.ratio(type, up, down));
+            boolean low = random.nextBoolean();
+            list(type, low ? 1 : 4095, low ? 1 : 2048);
         }
         for (int i = 0; i < 16; i++) {
             bind(i, true);
@@ -142,35 +156,51 @@ public final class LongNumbersTest {
     }
 
     private void compareAll() {
-        check("choose()", moves.choose(), due.choose());
-        check("solve()", moves.solve(), due.solve());
-        check("loose()", moves.loose(), due.loose());
+        change("choose()", JustMoves::choose, due.choose());
+        change("solve()", JustMoves::solve, due.solve());
+        change("loose()", JustMoves::loose, due.loose());
+        startAgain();
         compareText("energy()", moves.energy(), due.energy());
         boolean[] seen = new boolean[20];
         for (int set = 0; set < due.sets(); set++) {
             for (int note : due.members(set)) {
                 int variable = due.variable(set, note);
-                check("variable(" + set + ", " + note + ")", moves.variable(set, note), variable);
                 if (!seen[variable]) {
                     seen[variable] = true;
-                    compareText("place(" + set + ", " + note + ")", moves.place(set, note), due.place(set, note));
-                    compareText("move(" + set + ", " + note + ")", moves.move(set, note), due.move(set, note));
-                    check("near(" + set + ", " + note + ")", moves.near(set, note), due.near(set, note));
+                    compareVariable(set, note, variable);
                 }
             }
         }
+    }
+
+    /** Texts are long and an object is used for 512 calls at most, so that each variable has its own. */
+    private void startAgain() {
+        moves = new JustMoves();
+        for (Change change : changes) {
+            check(change.call, change.to.applyAsLong(moves), change.want);
+        }
+    }
+
+    private void compareVariable(int set, int note, int variable) {
+        startAgain();
+        String both = "(" + set + ", " + note + ")";
+        check("variable" + both, moves.variable(set, note), variable);
+        check("near" + both, moves.near(set, note), due.near(set, note));
+        compareText("place" + both, moves.place(set, note), due.place(set, note));
+        compareText("move" + both, moves.move(set, note), due.move(set, note));
     }
 
     private void compareText(String call, int got, int want) {
         check(call, got, want);
         longest = Math.max(longest, want);
         StringBuilder text = new StringBuilder();
-        for (int i = 0; moves.text(i) != JustMoves.NONE; i++) {
+        for (int i = 0; i < want; i++) {
             text.append((char) moves.text(i));
         }
+        check("text(" + want + ")", moves.text(want), JustMoves.NONE);
         if (!text.toString().equals(due.text)) {
             failures++;
-            System.out.println(log + "but wrote " + text + ", due is " + due.text);
+            System.out.println(call + " wrote " + text + ", due is " + due.text);
         }
     }
 }
