@@ -68,9 +68,13 @@ final class ChangesEdges {
             .due(FULL, "note 60 7 20").due(6, "note 60 8 20"));
         Sentences.test("Promise 2", "FULL: at some tick, amid the new note", () -> sixFromFive()
             .due(FULL, "note 60 0 20", "note 60 4 9"));
+        Sentences.test("Promise 2", "FULL: at some tick, at which the first note begins as the sixth", () -> Scores
+            .score(60, 5, 6, 60, 3, 8, 60, 3, 8, 60, 3, 8, 60, 3, 8, 60, 3, 8).due(FULL, "note 60 0 9", "note 60 4 6")
+            .due(6, "note 60 0 5").due(7, "note 60 6 9"));
         Sentences.test("Promise 2", "FULL: at one tick alone", () -> Scores
             .score(60, 0, 9, 60, 1, 8, 60, 2, 7, 60, 3, 6, 60, 0, 9, 60, 4, 5)
-            .due(FULL, "note 60 0 9", "note 60 4 5", "note 60 3 5", "note 60 4 9").due(6, "note 60 0 4").due(7, "note 60 5 9"));
+            .due(FULL, "note 60 0 9", "note 60 4 5", "note 60 3 5", "note 60 4 9").due(6, "note 60 0 4")
+            .due(7, "note 60 5 9"));
         Sentences.test("Promise 2", "FULL: more than six in all, never at one tick", () -> Scores
             .chord(60, 60, 60, 60, 60, 60).due(6, "note 60 4 8").due(7, "note 60 5 8"));
     }
@@ -88,7 +92,8 @@ final class ChangesEdges {
     }
 
     private static void clear() {
-        Sentences.test("Promise 3", "No notes: how many there were: none", () -> new Run().due(0, "clear", "clear", "sets"));
+        Sentences.test("Promise 3", "No notes: how many there were: none", () -> new Run()
+            .due(0, "clear", "clear", "sets"));
         Sentences.test("Promise 3", "No notes: how many there were: 16", () -> Scores.sixteen().due(16, "clear")
             .due(0, "sets", "clear").due(BAD, "set 0 0", "sounds 0 0", "bind 0 on", "variable 0 0", "chosen 0"));
         Sentences.test("Promise 3", "No notes, but ratios, weights and THE TEXT stay", () -> Scores.chord(60, 67)
@@ -130,7 +135,8 @@ final class ChangesEdges {
             .due(BAD, "ratio 0 17 16", "ratio 0 18 17", "ratio 0 19 18", "ratio 0 20 19", "ratio 0 289 288",
                 "ratio 0 9973 9801", "ratio 0 9999 9998", "ratio 0 34 27", "ratio 0 27 23", "ratio 0 8192 5041")
             .due(1, "ratio 0 13 12").due(2, "ratio 0 14 13"));
-        Sentences.test("Promise 5", "BAD: it is in the list", () -> new Run().due(BAD, "ratio 7 3 2").due(1, "ratio 7 40 27")
+        Sentences.test("Promise 5", "BAD: it is in the list", () -> new Run().due(BAD, "ratio 7 3 2")
+            .due(1, "ratio 7 40 27")
             .due(BAD, "ratio 7 3 2", "ratio 7 40 27").due(2, "ratio 7 32 21")
             .due(BAD, "ratio 7 3 2", "ratio 7 40 27", "ratio 7 32 21").due(1, "ratio 6 3 2")
             .due(3, "empty 7").due(0, "ratio 7 40 27"));
@@ -168,6 +174,7 @@ final class ChangesEdges {
     private static void weightUpTo(int what, int most, int first) {
         String call = "weight " + what + " ";
         new Run().due(BAD, call + -1, call + (most + 1), call + LOW, call + HIGH)
-            .due(first, call + 0).due(0, call + most).due(BAD, call + (most + 1)).due(most, call + most, call + 1).due(1, call + 0);
+            .due(first, call + 0).due(0, call + most).due(BAD, call + (most + 1)).due(most, call + most, call + 1)
+            .due(1, call + 0);
     }
 }

@@ -27,6 +27,10 @@ final class ChoiceEdges {
         Sentences.test(PART, "at the first set where they differ, which is not set 0", () -> crossedFifths()
             .notes(60, 8, 9).notes(64, 8, 10, 71, 8, 10, 59, 9, 10).due(0, "choose", "chosen 0").due(1, "chosen 1")
             .due(0, "chosen 2").due(1, "chosen 3"));
+        Sentences.test(PART, "of several such: one with more HARSH, one with more STRAIN", () -> {
+            harshOrStrained(14, 13, 27, 25);
+            harshOrStrained(27, 25, 14, 13);
+        });
         Sentences.test(PART, "at the first set where they differ, all others are like", () -> Scores
             .score(60, 0, 1, 67, 0, 1, 60, 1, 2, 67, 1, 2, 60, 3, 4, 67, 3, 4).lists(7, 4, 3, 3, 2).due(600000, "choose")
             .due(0, "chosen 0", "chosen 1", "chosen 2"));
@@ -34,13 +38,22 @@ final class ChoiceEdges {
 
     /** Without A: 3/2 goes with 4/3, and 40/27 with 27/20, which have the other order. */
     private static Run crossedFifths() {
-        return Scores.score(60, 0, 2, 67, 0, 2, 55, 1, 2).lists(7, 3, 2, 40, 27).lists(5, 27, 20, 4, 3).weighs(0, 1, 4, 2, 1);
+        return Scores.score(60, 0, 2, 67, 0, 2, 55, 1, 2).lists(7, 3, 2, 40, 27).lists(5, 27, 20, 4, 3)
+            .weighs(0, 1, 4, 2, 1);
+    }
+
+    /** 14/13 has 8 more HARSH in set 1, where 27/25 has a STRAIN of 30 * 496 * 496: that is 8 A. */
+    private static void harshOrStrained(int... terms) {
+        Scores.score(60, 0, 2, 67, 0, 2, 55, 1, 2).lists(7, 13, 7).lists(5, terms).does("weight 0 922560")
+            .due(922560 * (18 + 36), "choose").due(0, "chosen 0", "chosen 1");
     }
 
     private static void costs() {
         Sentences.test(PART, "COST: A 0", () -> Scores.chord(60, 64, 67).does("weight 0 0").due(0, "choose"));
-        Sentences.test(PART, "COST: A 1000000", () -> Scores.chord(60, 64, 67).does("weight 0 1000000").due(12000000, "choose"));
-        Sentences.test(PART, "COST: of all chosen readings", () -> Scores.score(60, 0, 1, 67, 0, 1, 60, 1, 2, 60, 3, 4, 64, 3, 4)
+        Sentences.test(PART, "COST: A 1000000", () -> Scores.chord(60, 64, 67).does("weight 0 1000000")
+            .due(12000000, "choose"));
+        Sentences.test(PART, "COST: of all chosen readings", () ->
+            Scores.score(60, 0, 1, 67, 0, 1, 60, 1, 2, 60, 3, 4, 64, 3, 4)
             .due(100000 * (2 + 0 + 4), "choose"));
         Sentences.test(PART, "so that the COST is the least, not that of each set", () -> Scores
             .score(60, 0, 2, 67, 0, 2, 55, 1, 2).lists(5, 27, 20).lists(7, 3, 2, 40, 27).does("weight 1 99")
@@ -61,6 +74,9 @@ final class ChoiceEdges {
         Sentences.test(PART, "STRAIN: m = 3", () -> strained(3).due(60 / 3 * (3 - 1) * COMMA * COMMA, "choose"));
         Sentences.test(PART, "STRAIN: m = 4", () -> strained(4).due(60 / 4 * (4 - 1) * COMMA * COMMA, "choose"));
         Sentences.test(PART, "STRAIN: m = 5", () -> strained(5).due(60 / 5 * (5 - 1) * COMMA * COMMA, "choose"));
+        Sentences.test(PART, "STRAIN: notes that were COMMON before do not count", () -> strained(5)
+            .due(48 * COMMA * COMMA, "choose").does("clear").notes(64, 0, 2, 55, 1, 2, 60, 0, 2)
+            .due(30 * COMMA * COMMA, "choose"));
         Sentences.test(PART, "STRAIN: notes that are not COMMON do not count", () -> strained(2).notes(61, 0, 1, 63, 1, 2)
             .due(30 * COMMA * COMMA, "choose"));
     }
@@ -76,7 +92,8 @@ final class ChoiceEdges {
 
     /** The KEYS of three strained ones, but each set has notes of its own; B 99. */
     private static Run apart(int from) {
-        return Scores.score(60, 0, 1, 64, 0, 1, 60, from, 3, 64, from, 3, 55, from, 3).lists(9, 27, 16).weighs(0, 99, 4, 2, 1);
+        return Scores.score(60, 0, 1, 64, 0, 1, 60, from, 3, 64, from, 3, 55, from, 3).lists(9, 27, 16)
+            .weighs(0, 99, 4, 2, 1);
     }
 
     private static void chooseIsRefused() {
@@ -84,17 +101,26 @@ final class ChoiceEdges {
             .due(0, "choose").does("clear").due(STATE, "choose"));
         Sentences.test("Promise 13", "STATE: a set has no reading, the only one", () -> Scores.chord(60, 67).does("empty 7")
             .due(STATE, "choose").due(NONE, "chosen 0"));
-        Sentences.test("Promise 13", "STATE: a set has no reading, the first", () -> threeSets().does("empty 4").due(STATE, "choose"));
-        Sentences.test("Promise 13", "STATE: a set has no reading, amid", () -> threeSets().does("empty 5").due(STATE, "choose"));
-        Sentences.test("Promise 13", "STATE: a set has no reading, the last", () -> threeSets().does("empty 7").due(STATE, "choose"));
-        Sentences.test("Promise 13", "FULL: a set has more than 64: 72", () -> Scores.sixWith(3, 3, 2, 2, 2).due(72, "set 0 4")
+        Sentences.test("Promise 13", "STATE: a set has no reading, the first", () -> threeSets().does("empty 4")
+            .due(STATE, "choose"));
+        Sentences.test("Promise 13", "STATE: a set has no reading, amid", () -> threeSets().does("empty 5")
+            .due(STATE, "choose"));
+        Sentences.test("Promise 13", "STATE: a set has no reading, the last", () -> threeSets().does("empty 7")
+            .due(STATE, "choose"));
+        Sentences.test("Promise 13", "FULL: a set has more than 64: 72", () -> Scores.sixWith(3, 3, 2, 2, 2)
+            .due(72, "set 0 4")
             .due(FULL, "choose").due(NONE, "chosen 0"));
-        Sentences.test("Promise 13", "FULL: a set has more than 64: 243", () -> Scores.sixWith(3, 3, 3, 3, 3).due(FULL, "choose"));
+        Sentences.test("Promise 13", "FULL: a set has more than 64: 243", () -> Scores.sixWith(3, 3, 3, 3, 3)
+            .due(FULL, "choose"));
         // 54 is the greatest number below 64 that lists of three at most can give.
         Sentences.test("Promise 13", "FULL: 54 are taken, the last of them too", () -> Scores.sixWith(3, 3, 3, 2, 1)
             .due(54, "set 0 4").due(100000 * (30 + 12 + 24 + 12), "choose").due(53, "chosen 0"));
         Sentences.test("Promise 13", "FULL: a set has more than 64, the last", () -> Scores.sixLastWith(3, 3, 2, 2, 2)
             .due(1, "set 0 4").due(72, "set 1 4").due(FULL, "choose"));
+        Sentences.test("Promise 13", "FULL: 54 are taken in sets next to one another", () -> Scores
+            .score(60, 0, 2, 61, 0, 2, 62, 0, 2, 63, 0, 2, 64, 0, 2, 65, 0, 1).lists(1, 7, 4, 13, 7, 1, 1)
+            .lists(2, 7, 4, 13, 7, 1, 1).lists(3, 7, 4, 13, 7, 1, 1).lists(4, 7, 4, 1, 1).lists(5, 1, 1)
+            .due(54, "set 0 4", "set 1 4").due(0, "choose").due(53, "chosen 0", "chosen 1"));
         Sentences.test("Promise 13", "FULL: all sets together may have more", () -> Scores.sixWith(3, 3, 3, 2, 1)
             .notes(60, 5, 6, 61, 5, 6, 62, 5, 6, 63, 5, 6, 64, 5, 6).due(54, "set 0 4", "set 1 4").does("choose"));
     }
@@ -104,10 +130,12 @@ final class ChoiceEdges {
     }
 
     private static void choose() {
-        Sentences.test("Promise 13", "THE CHOICE is made (THE PLACES are no more, then)", () -> Scores.chord(60, 67).solves()
+        Sentences.test("Promise 13", "THE CHOICE is made (THE PLACES are no more, then)", () -> Scores.chord(60, 67)
+            .solves()
             .due(0, "loose").due(200000, "choose").due(STATE, "loose", "energy", "place 0 0", "move 0 0", "near 0 0")
             .due(0, "chosen 0", "pure 0 7"));
-        Sentences.test("Promise 13", "its COST, again and of a note alone", () -> Scores.chord(60).due(0, "choose", "choose", "chosen 0"));
+        Sentences.test("Promise 13", "its COST, again and of a note alone", () -> Scores.chord(60)
+            .due(0, "choose", "choose", "chosen 0"));
     }
 
     private static void chosen() {
@@ -117,7 +145,9 @@ final class ChoiceEdges {
             .due(BAD, "chosen -1", "chosen 3", "chosen 31", "chosen " + LOW, "chosen " + HIGH));
         Sentences.test("Promise 14", "BAD, also without a CHOICE", () -> threeSets().due(BAD, "chosen -1", "chosen 3")
             .does("clear").due(BAD, "chosen 0"));
-        Sentences.test("Promise 14", "The reading of a set, of the last of 31", () -> Scores.longest().lists(1, 7, 5, 16, 15)
-            .does("weight 1 0", "choose").due(0, "chosen 30").due(1, "chosen 29", "chosen 1").due(0, "chosen 0").due(BAD, "chosen 31"));
+        Sentences.test("Promise 14", "The reading of a set, of the last of 31", () -> Scores.longest()
+            .lists(1, 7, 5, 16, 15)
+            .does("weight 1 0", "choose").due(0, "chosen 30").due(1, "chosen 29", "chosen 1").due(0, "chosen 0")
+            .due(BAD, "chosen 31"));
     }
 }

@@ -19,7 +19,8 @@ final class NotesEdges {
         Sentences.test(part, "sound from a tick to before another one", () -> Scores.score(60, 5, 7, 62, 7, 9, 64, 6, 8)
             .due(1, "sounds 0 0", "sounds 1 0", "sounds 1 2", "sounds 2 2", "sounds 2 1", "sounds 3 1")
             .due(0, "sounds 2 0", "sounds 1 1", "sounds 0 2", "sounds 3 2"));
-        Sentences.test(part, "EQUAL of a note is 10000 times its KEY", () -> Scores.score(0, 0, 1, 127, 2, 3, 1, 4, 5).solves()
+        Sentences.test(part, "EQUAL of a note is 10000 times its KEY", () -> Scores.score(0, 0, 1, 127, 2, 3, 1, 4, 5)
+            .solves()
             .dueText("0", "place 0 0").dueText("1270000", "place 1 1").dueText("10000", "place 2 2")
             .due(0, "near 0 0").due(1270000, "near 1 1"));
         Sentences.test(part, "A note is COMMON to sets k and k + 1 if it sounds in both", () -> Scores

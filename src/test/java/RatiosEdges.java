@@ -33,7 +33,8 @@ final class RatiosEdges {
 
     private static void sizes() {
         Sentences.test(PART, "SIZE: 1/1 has no primes", () -> dueSize(0, 1, 1));
-        Sentences.test(PART, "SIZE: LOG of 2, each as often as it is one, 3 of down", () -> dueSize(13 * 120000 - 8 * 190196, 8192, 6561));
+        Sentences.test(PART, "SIZE: LOG of 2, each as often as it is one, 3 of down", () ->
+            dueSize(13 * 120000 - 8 * 190196, 8192, 6561));
         Sentences.test(PART, "SIZE: LOG of 3", () -> dueSize(8 * 190196 - 12 * 120000, 6561, 4096));
         Sentences.test(PART, "SIZE: LOG of 5", () -> dueSize(5 * 278631 - 11 * 120000, 3125, 2048));
         Sentences.test(PART, "SIZE: LOG of 7", () -> dueSize(4 * 336883 - 11 * 120000, 2401, 2048));
@@ -51,7 +52,8 @@ final class RatiosEdges {
     }
 
     private static void harshOfRatios() {
-        Sentences.test(PART, "HARSH of a ratio: of 1/1 and of octaves 0", () -> Scores.chord(60, 60, 72, 84).due(0, "harsh 0 0"));
+        Sentences.test(PART, "HARSH of a ratio: of 1/1 and of octaves 0", () -> Scores.chord(60, 60, 72, 84)
+            .due(0, "harsh 0 0"));
         Sentences.test(PART, "HARSH: p - 1 for all primes p of above", () -> {
             dueHarsh(2, 3, 2);
             dueHarsh(4, 5, 4);
@@ -71,8 +73,10 @@ final class RatiosEdges {
             dueHarsh(36, 2197, 2048);
             dueHarsh(4 * 2 + 2 * 10 + 2 * 4 + 2 * 6, 9801, 9800);
         });
-        Sentences.test(PART, "HARSH: it is brought to lowest terms", () -> Scores.chord(60, 62, 67).due(2 + 4 + 2, "harsh 0 0"));
-        Sentences.test(PART, "HARSH: brought to lowest terms, that is 1/1", () -> Scores.chord(60, 67, 79).due(2 + 2, "harsh 0 0"));
+        Sentences.test(PART, "HARSH: it is brought to lowest terms", () -> Scores.chord(60, 62, 67)
+            .due(2 + 4 + 2, "harsh 0 0"));
+        Sentences.test(PART, "HARSH: brought to lowest terms, that is 1/1", () -> Scores.chord(60, 67, 79)
+            .due(2 + 2, "harsh 0 0"));
     }
 
     private static void dueHarsh(int harsh, int up, int down) {
@@ -81,16 +85,19 @@ final class RatiosEdges {
 
     private static void bases() {
         Sentences.test(PART, "THE BASE: its note with the least KEY", () -> Scores.chord(61, 127, 0, 60).due(2, "set 0 2"));
-        Sentences.test(PART, "THE BASE: of like ones the least number", () -> Scores.chord(61, 60, 60, 60).due(1, "set 0 2"));
+        Sentences.test(PART, "THE BASE: of like ones the least number", () -> Scores.chord(61, 60, 60, 60)
+            .due(1, "set 0 2"));
         Sentences.test(PART, "THE BASE of a set, not of all notes", () -> Scores.score(60, 0, 1, 64, 0, 2, 67, 1, 2)
             .due(0, "set 0 2").due(1, "set 1 2"));
     }
 
     private static void readings() {
-        Sentences.test(PART, "for the BASE 1/1, whatever the list of CLASS 0 has", () -> Scores.chord(60, 60).lists(0, 81, 80)
+        Sentences.test(PART, "for the BASE 1/1, whatever the list of CLASS 0 has", () -> Scores.chord(60, 60)
+            .lists(0, 81, 80)
             .due(1, "reading 0 0 0 0", "reading 0 0 0 1").due(0, "reading 0 0 0 2")
             .due(81, "reading 0 0 1 0").due(80, "reading 0 0 1 1"));
-        Sentences.test(PART, "for the BASE 1/1, also if the list of CLASS 0 is empty", () -> Scores.chord(60, 67).does("empty 0")
+        Sentences.test(PART, "for the BASE 1/1, also if the list of CLASS 0 is empty", () -> Scores.chord(60, 67)
+            .does("empty 0")
             .due(1, "set 0 4", "reading 0 0 0 0").does("choose"));
         Sentences.test(PART, "a note with the KEY of the BASE has a ratio of CLASS 0", () -> Scores.chord(60, 60)
             .lists(0, 1, 1, 81, 80).due(2, "set 0 4").due(81, "reading 0 1 1 0").does("empty 0").due(0, "set 0 4"));
@@ -132,7 +139,8 @@ final class RatiosEdges {
             for (int note = 1; note < 6; note++) {
                 run.due(7, "reading 0 242 " + note + " 0").due(4, "reading 0 242 " + note + " 1");
             }
-            run.due(5, "reading 0 241 5 1").due(4, "reading 0 241 4 1").due(4, "reading 0 161 5 1").due(5, "reading 0 161 1 1");
+            run.due(5, "reading 0 241 5 1").due(4, "reading 0 241 4 1").due(4, "reading 0 161 5 1")
+                .due(5, "reading 0 161 1 1");
         });
     }
 
@@ -143,7 +151,8 @@ final class RatiosEdges {
 
     private static void targets() {
         int seventh = 190196 + 278631 - 3 * 120000;
-        Sentences.test(PART, "TARGET of the BASE", () -> Scores.chord(127, 127).due(0, "reading 0 0 0 2", "reading 0 0 1 2"));
+        Sentences.test(PART, "TARGET of the BASE", () -> Scores.chord(127, 127)
+            .due(0, "reading 0 0 0 2", "reading 0 0 1 2"));
         Sentences.test(PART, "TARGET: / 12, cut off: 11, 12, 13", () -> {
             Scores.chord(60, 71).due(seventh, "reading 0 0 1 2");
             Scores.chord(60, 72).due(120000, "reading 0 0 1 2");
@@ -153,7 +162,8 @@ final class RatiosEdges {
             Scores.chord(60, 83).due(120000 + seventh, "reading 0 0 1 2");
             Scores.chord(60, 84).due(240000, "reading 0 0 1 2");
         });
-        Sentences.test(PART, "TARGET of KEY 127 above KEY 0", () -> Scores.chord(127, 0).due(1200000 + 70196, "reading 0 0 0 2"));
+        Sentences.test(PART, "TARGET of KEY 127 above KEY 0", () -> Scores.chord(127, 0)
+            .due(1200000 + 70196, "reading 0 0 0 2"));
     }
 
     private static void harshOfReadings() {
@@ -180,7 +190,8 @@ final class RatiosEdges {
             .due(BAD, "reading 0 0 -1 0", "reading 0 0 3 0", "reading 0 0 16 0", "reading 0 0 " + LOW + " 0",
                 "reading 0 0 " + HIGH + " 0"));
         Sentences.test("Promise 11", "BAD: also a note that does not sound there", () -> twoSets()
-            .due(BAD, "reading 0 0 2 0", "reading 1 0 0 0", "reading 1 0 1 2").due(1, "reading 0 0 0 0", "reading 1 0 2 0"));
+            .due(BAD, "reading 0 0 2 0", "reading 1 0 0 0", "reading 1 0 1 2")
+            .due(1, "reading 0 0 0 0", "reading 1 0 2 0"));
         Sentences.test("Promise 11", "BAD: another what", () -> twoSets()
             .due(BAD, "reading 0 0 1 -1", "reading 0 0 1 3", "reading 0 0 1 " + LOW, "reading 0 0 1 " + HIGH));
     }
@@ -191,7 +202,8 @@ final class RatiosEdges {
     }
 
     private static void harsh() {
-        Sentences.test("Promise 12", "HARSH of a reading, the last one too", () -> twoSets().due(2, "harsh 0 0").due(10, "harsh 0 1")
+        Sentences.test("Promise 12", "HARSH of a reading, the last one too", () -> twoSets().due(2, "harsh 0 0")
+            .due(10, "harsh 0 1")
             .due(0, "harsh 1 0"));
         Sentences.test("Promise 12", "BAD: no such set", () -> twoSets()
             .due(BAD, "harsh -1 0", "harsh 2 0", "harsh " + LOW + " 0", "harsh " + HIGH + " 0"));
